@@ -1,0 +1,196 @@
+/** Promises 15 to 19: the text, the history and the snapshot. */
+public final class MemoryTest {
+    private static final int FULL = Stores.FULL;
+    private static final int NONE = Stores.NONE;
+
+    public static void main(String[] args) {
+        promise15Type();
+        promise16ClearText();
+        promise17Undo();
+        promise17WhatIsRecorded();
+        promise17WholeState();
+        promise18Keep();
+        promise19Restore();
+        Check.end();
+    }
+
+    private static void promise15Type() {
+        Check check = new Check("promise 15");
+        ShelfStages store = Stores.withGoods(1);
+        for (int length = 1; length <= 60; length++) {
+            char character = length % 2 == 0 ? (char) 0xFFFF : (char) 0;
+            check.due("type", store.type(character), length);
+        }
+        check.due("61st", store.type('0'), FULL);
+        check.due("length", store.count(18), 60);
+        check.due("no act", store.count(17), 1);
+        check.due("undo", store.undo(), 0);
+        check.due("length still", store.count(18), 60);
+    }
+
+    private static void promise16ClearText() {
+        Check check = new Check("promise 16");
+        ShelfStages store = Stores.withGoods(1);
+        check.due("empty", store.clearText(), 0);
+        Stores.withText(store, "0x10");
+        check.due("no act", store.count(17), 1);
+        check.due("4 characters", store.clearText(), 4);
+        check.due("empty again", store.clearText(), 0);
+        check.due("length", store.count(18), 0);
+        check.due("read", store.readDelivery(), -100);
+        Stores.withText(store, "0x2");
+        check.due("read anew", store.readDelivery(), 1);
+        check.due("units", store.batch(0, 1), 2);
+    }
+
+    private static void promise17Undo() {
+        Check check = new Check("promise 17");
+        ShelfStages store = new ShelfStages();
+        check.due("empty", store.undo(), NONE);
+        for (int price = 1; price <= 6; price++) {
+            store.addGood(price, 1);
+            check.due("states", store.count(17), Math.min(price, 4));
+        }
+        for (int left = 3; left >= 0; left--) {
+            check.due("undo", store.undo(), left);
+            check.due("goods", store.count(1), left + 2);
+        }
+        check.due("no more", store.undo(), NONE);
+        check.due("goods", store.count(1), 2);
+        check.due("an act", store.addGood(9, 9), 2);
+        check.due("undone", store.undo(), 0);
+        check.due("price of 1", store.good(1, 0), 2);
+    }
+
+    private static void promise17WhatIsRecorded() {
+        Check check = new Check("promise 17");
+        ShelfStages store = Stores.withBatches(10, 10);
+        store.undo();
+        store.undo();
+        store.addGood(100, 10);
+        store.bring(0, 10, 10);
+        store.undo();
+        store.bring(0, 10, 10);
+        int states = store.count(17);
+        check.due("states", states, 2);
+        store.keep();
+        store.type('0');
+        store.clearText();
+        store.wouldGet(0, 5, 0, true, 0);
+        store.wouldExpire(0, 60);
+        store.stageIn(0, 1);
+        store.setPrice(0, 100);
+        store.order(0, 0, 0, true);
+        store.recall(4);
+        check.due("no acts, errors and NONE", store.count(17), states);
+        check.due("units after what would be", store.batch(0, 3), 10);
+        check.due("day after what would be", store.count(0), 0);
+        store.order(0, 1, 60, true);
+        check.due("a refused order is an act", store.count(17), 3);
+        store.restore();
+        check.due("restore is an act", store.count(17), 4);
+        store.undo();
+        check.due("undone restore", store.count(3), 1);
+    }
+
+    private static void promise17WholeState() {
+        Check check = new Check("promise 17");
+        ShelfStages store = busy();
+        String before = told(store);
+        store.addSubstitute(1, 0, 0);
+        store.undo();
+        check.dueText("after addSubstitute", told(store), before);
+        store.setStage(2, 30, Stores.bits(41.5f));
+        store.undo();
+        store.setRebate(Stores.bits(20.0f));
+        store.undo();
+        store.set(0, 2);
+        store.undo();
+        check.dueText("after settings", told(store), before);
+        store.order(0, 50, 0, true);
+        store.undo();
+        store.bring(1, 4, 4);
+        store.undo();
+        store.pass(30);
+        store.undo();
+        store.recall(0);
+        store.undo();
+        check.dueText("after what happens", told(store), before);
+        store.keep();
+        store.pass(30);
+        store.order(1, 5, 0, true);
+        store.setStage(1, 60, 0);
+        store.restore();
+        check.dueText("after restore", told(store), before);
+    }
+
+    private static ShelfStages busy() {
+        ShelfStages store = Stores.withBatches(10, 10, 20, 3, 30, 6);
+        store.addGood(70, 20);
+        store.addSubstitute(0, 1, 0);
+        store.bring(1, 15, 20);
+        store.set(1, 2);
+        store.pass(1);
+        store.order(0, 12, 0, true);
+        store.breakUnits(3, 2);
+        store.order(1, 5, 0, false);
+        return store;
+    }
+
+    /** All that is told of a store, but for the states in its history. */
+    private static String told(ShelfStages store) {
+        StringBuilder told = new StringBuilder();
+        for (int what = 0; what <= 16; what++) {
+            told.append(store.count(what)).append(' ');
+        }
+        for (int number = 0; number < 5; number++) {
+            for (int what = 0; what <= 11; what++) {
+                told.append(store.good(number, what)).append(' ').append(store.batch(number, what))
+                    .append(' ').append(store.orderTold(number, what)).append(' ')
+                    .append(store.stage(number, what)).append(' ').append(store.event(what, number))
+                    .append(' ').append(store.taken(number, what, 0)).append(' ');
+            }
+            told.append(store.markdown(number)).append(' ').append(store.unitPrice(number))
+                .append(' ').append(store.substitute(number, 0)).append(';');
+        }
+        return told.append(store.wouldGet(0, 99, 0, true, 3)).toString();
+    }
+
+    private static void promise18Keep() {
+        Check check = new Check("promise 18");
+        ShelfStages store = Stores.withBatches(10, 10);
+        check.due("day 0", store.keep(), 0);
+        store.pass(7);
+        check.due("day 7", store.keep(), 7);
+        check.due("no act", store.count(17), 3);
+        store.pass(2);
+        check.due("the later one", store.restore(), 7);
+        store.undo();
+        store.undo();
+        store.undo();
+        check.due("undone", store.count(0), 0);
+        check.due("the snapshot is not", store.restore(), 7);
+        check.due("left", store.batch(0, 2), 3);
+    }
+
+    private static void promise19Restore() {
+        Check check = new Check("promise 19");
+        ShelfStages store = Stores.withBatches(10, 10);
+        check.due("none", store.restore(), NONE);
+        check.due("states", store.count(17), 2);
+        store.keep();
+        Stores.withText(store, "0x1");
+        store.pass(3);
+        check.due("restored", store.restore(), 0);
+        check.due("day", store.count(0), 0);
+        check.due("the text is no part", store.count(18), 3);
+        check.due("states", store.count(17), 4);
+        store.order(0, 4, 0, true);
+        check.due("restored again", store.restore(), 0);
+        check.due("shelf", store.batch(0, 3), 10);
+        check.due("even if nothing changes", store.restore(), 0);
+        check.due("undo", store.undo(), 3);
+        check.due("undo", store.undo(), 2);
+        check.due("shelf before", store.batch(0, 3), 6);
+    }
+}
