@@ -605,7 +605,10 @@ public final class ShelfStages {
         System.arraycopy(from, 0, to, 0, Math.min(from.length, to.length));
     }
 
-    /** What an act may change, and what undo and restore bring back. */
+    /**
+     * What an act may change, and what undo and restore bring back. States are copied by whole
+     * rows, so that behind the last good, batch or order the rows hold zeros, as at first.
+     */
     private static final class State {
         final Goods goods = new Goods();
         final Batches batches = new Batches();
@@ -755,7 +758,6 @@ public final class ShelfStages {
             int good = size;
             price[good] = firstPrice;
             life[good] = daysOfLife;
-            listed[good] = 0;
             size++;
             return good;
         }
@@ -819,19 +821,12 @@ public final class ShelfStages {
             }
         }
 
-        // The place may hold a batch that was undone.
         int append(int ofGood, int units, int daysLeft) {
             int batch = size;
             good[batch] = ofGood;
             came[batch] = units;
             left[batch] = daysLeft;
             shelf[batch] = units;
-            sold[batch] = 0;
-            given[batch] = 0;
-            cents[batch] = 0;
-            for (int cause = 0; cause < CAUSES; cause++) {
-                wasted[cause][batch] = 0;
-            }
             size++;
             return batch;
         }
@@ -923,7 +918,6 @@ public final class ShelfStages {
             accepts[order] = substitutes ? 1 : 0;
             day[order] = today;
             firstTake[order] = takes;
-            parts[order] = 0;
             size++;
         }
 

@@ -23,6 +23,7 @@ public final class HappeningsTest {
         promise14Pass();
         promise14Expiry();
         promise14Donation();
+        promise14DonationParts();
         Check.end();
     }
 
@@ -325,6 +326,7 @@ public final class HappeningsTest {
         check.due("kind", store.event(0, 0), 3);
         check.due("units", store.event(0, 2), 3);
         check.due("the rest", store.breakUnits(0, 7), 0);
+        check.due("broken then", store.batch(0, 8), 10);
         check.due("one of none", store.breakUnits(0, 1), NOT_POSSIBLE);
         check.due("the other batch", store.batch(1, 3), 20);
         check.due("undo", store.undo(), 3);
@@ -344,20 +346,21 @@ public final class HappeningsTest {
         store.bring(0, 7, 3);
         store.bring(0, 8, 1);
         store.breakUnits(3, 8);
-        check.due("recall(0)", store.recall(0), 12);
+        store.breakUnits(2, 6);
+        check.due("recall(0)", store.recall(0), 6);
         check.due("of 0", store.batch(0, 9), 5);
         check.due("of 1", store.batch(1, 9), 0);
-        check.due("of 2", store.batch(2, 9), 7);
+        check.due("of 2", store.batch(2, 9), 1);
         check.due("of 3", store.batch(3, 9), 0);
         check.due("latest event's batch", store.event(0, 1), 2);
         check.due("its kind", store.event(0, 0), 3);
-        check.due("its units", store.event(0, 2), 7);
+        check.due("its units", store.event(0, 2), 1);
         check.due("event before", store.event(1, 1), 0);
-        check.due("event of the breaking", store.event(2, 1), 3);
+        check.due("event of the breaking", store.event(2, 1), 2);
         check.due("again", store.recall(0), NONE);
         check.due("states", store.count(17), 4);
         store.undo();
-        check.due("shelf then", store.good(0, 3), 12);
+        check.due("shelf then", store.good(0, 3), 6);
     }
 
     private static void promise14Pass() {
@@ -403,6 +406,7 @@ public final class HappeningsTest {
         check.due("day then", store.count(0), 3);
         store.undo();
         check.due("shelf then", store.batch(2, 3), 7);
+        check.due("two on one day", Stores.withBatches(5, 1, 1, 1, 6, 1, 7, 2).pass(1), 12);
     }
 
     private static void promise14Donation() {
@@ -428,9 +432,26 @@ public final class HappeningsTest {
         store.pass(1);
         check.due("given at stage 1", store.batch(3, 5), 30);
         check.due("not at stage 0", store.batch(1, 5), 0);
+        check.due("its day", store.event(0, 3), 3);
         store.set(2, 0);
         store.pass(5);
         check.due("none when the most is 0", store.batch(1, 5), 0);
+        check.due("no event of none", store.event(0, 3), 3);
         check.due("given in all", store.count(6), 70);
+    }
+
+    private static void promise14DonationParts() {
+        Check check = new Check("promise 14");
+        ShelfStages store = Stores.withBatches(10, 5, 10, 5);
+        store.set(1, 1);
+        store.set(2, 6);
+        store.pass(2);
+        check.due("6 and 4", store.batch(0, 5), 10);
+        check.due("2", store.batch(1, 5), 2);
+        check.due("an event a day and batch", store.event(2, 2), 6);
+        store.pass(1);
+        check.due("2 and 6", store.batch(1, 5), 8);
+        check.due("no event of the empty batch", store.event(1, 3), 2);
+        check.due("shelf", store.count(4), 2);
     }
 }

@@ -9,8 +9,11 @@ public final class MemoryTest {
         promise17Undo();
         promise17WhatIsRecorded();
         promise17WholeState();
+        promise17ManyTimes();
         promise18Keep();
         promise19Restore();
+        promise19OverOtherActs();
+        promise19Takes();
         Check.end();
     }
 
@@ -124,6 +127,18 @@ public final class MemoryTest {
         check.dueText("after restore", told(store), before);
     }
 
+    private static void promise17ManyTimes() {
+        Check check = new Check("promise 17");
+        ShelfStages store = Stores.withBatches(10, 10, 10, 10);
+        for (int time = 0; time < 80; time++) {
+            store.order(0, 15, 0, true);
+            check.due("second batch", store.taken(0, 1, 0), 1);
+            check.due("its units", store.taken(0, 1, 1), 5);
+            store.undo();
+        }
+        check.due("shelf", store.count(4), 20);
+    }
+
     private static ShelfStages busy() {
         ShelfStages store = Stores.withBatches(10, 10, 20, 3, 30, 6);
         store.addGood(70, 20);
@@ -192,5 +207,52 @@ public final class MemoryTest {
         check.due("undo", store.undo(), 3);
         check.due("undo", store.undo(), 2);
         check.due("shelf before", store.batch(0, 3), 6);
+    }
+
+    /** The acts behind the snapshot take the numbers of its last batch and order once more. */
+    private static void promise19OverOtherActs() {
+        Check check = new Check("promise 19");
+        ShelfStages store = new ShelfStages();
+        store.addGood(100, 10);
+        store.addGood(70, 20);
+        store.addGood(50, 15);
+        store.bring(0, 20, 10);
+        store.bring(1, 30, 20);
+        store.order(0, 9, 0, true);
+        store.addSubstitute(0, 1, 0);
+        store.bring(0, 1, 1);
+        store.set(0, 1);
+        store.order(0, 12, 2, true);
+        store.keep();
+        String kept = told(store);
+        for (int left = 3; left >= 0; left--) {
+            check.due("undo", store.undo(), left);
+        }
+        store.addSubstitute(0, 2, 0);
+        store.bring(2, 77, 13);
+        store.breakUnits(2, 1);
+        store.order(2, 75, 1, false);
+        store.pass(9);
+        store.order(1, 3, 0, false);
+        check.due("another order 1", store.orderTold(1, 0), 2);
+        check.due("another batch 2", store.batch(2, 0), 2);
+        store.restore();
+        check.dueText("the snapshot", told(store), kept);
+    }
+
+    private static void promise19Takes() {
+        Check check = new Check("promise 19");
+        ShelfStages store = Stores.withBatches(3, 10, 5, 10, 7, 10);
+        store.order(0, 4, 0, false);
+        store.order(0, 5, 0, false);
+        store.keep();
+        store.undo();
+        store.undo();
+        store.order(0, 1, 0, false);
+        store.order(0, 2, 0, false);
+        store.restore();
+        check.due("batch of order 1", store.taken(1, 0, 0), 1);
+        check.due("units of order 1", store.taken(1, 0, 1), 4);
+        check.due("second batch of order 1", store.taken(1, 1, 0), 2);
     }
 }

@@ -13,6 +13,7 @@ public final class SettingsTest {
         promise4AddSubstitute();
         promise4Errors();
         promise5RemoveSubstitute();
+        promise5LastGood();
         promise6SetStage();
         promise6Shares();
         promise6Markdowns();
@@ -164,6 +165,18 @@ public final class SettingsTest {
         check.due("undo", store.undo(), 3);
         check.due("first then", store.substitute(0, 0), 1);
         check.due("it may come again", store.addSubstitute(0, 4, 1), 3);
+    }
+
+    private static void promise5LastGood() {
+        Check check = new Check("promise 5");
+        ShelfStages store = Stores.withGoods(12);
+        for (int good = 10; good > 6; good--) {
+            store.addSubstitute(11, good, 0);
+        }
+        for (int good = 7; good < 11; good++) {
+            check.due("first of the full list", store.removeSubstitute(11, 0), good);
+        }
+        check.due("none left", store.removeSubstitute(11, 0), NONE);
     }
 
     private static void promise6SetStage() {

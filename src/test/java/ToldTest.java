@@ -247,6 +247,7 @@ public final class ToldTest {
     private static void promise29WouldExpire() {
         Check check = new Check("promise 29");
         ShelfStages store = Stores.withBatches(30, 3, 30, 4, 30, 10);
+        check.due("the next day", store.wouldExpire(0, 1), 0);
         check.due("before", store.wouldExpire(0, 2), 0);
         check.due("then", store.wouldExpire(0, 3), 30);
         check.due("long after", store.wouldExpire(2, 60), 30);
