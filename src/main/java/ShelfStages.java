@@ -79,7 +79,7 @@ public final class ShelfStages {
     }
 
     public int setPrice(int good, int price) {
-        if (!isGood(good)) {
+        if (!hasGood(good)) {
             return UNKNOWN;
         }
         if (!within(price, 1, MAX_PRICE)) {
@@ -95,7 +95,7 @@ public final class ShelfStages {
     }
 
     public int addSubstitute(int good, int substitute, int place) {
-        if (!isGood(good) || !isGood(substitute)) {
+        if (!hasGood(good) || !hasGood(substitute)) {
             return UNKNOWN;
         }
         Goods goods = now.goods;
@@ -170,7 +170,7 @@ public final class ShelfStages {
     // ---- what happens
 
     public int bring(int good, int units, int left) {
-        if (!isGood(good)) {
+        if (!hasGood(good)) {
             return UNKNOWN;
         }
         if (!isSupply(good, units, left)) {
@@ -216,7 +216,7 @@ public final class ShelfStages {
     }
 
     public int breakUnits(int batch, int units) {
-        if (!isBatch(batch)) {
+        if (!hasBatch(batch)) {
             return UNKNOWN;
         }
         if (!within(units, 1, MAX_UNITS)) {
@@ -231,7 +231,7 @@ public final class ShelfStages {
     }
 
     public int recall(int good) {
-        if (!isGood(good)) {
+        if (!hasGood(good)) {
             return UNKNOWN;
         }
         int units = now.batches.sumOfGood(now.batches.shelf, good);
@@ -299,7 +299,7 @@ public final class ShelfStages {
     // ---- what is told
 
     public int good(int good, int what) {
-        if (!isGood(good)) {
+        if (!hasGood(good)) {
             return UNKNOWN;
         }
         Batches batches = now.batches;
@@ -324,7 +324,7 @@ public final class ShelfStages {
     }
 
     public int batch(int batch, int what) {
-        if (!isBatch(batch)) {
+        if (!hasBatch(batch)) {
             return UNKNOWN;
         }
         Batches batches = now.batches;
@@ -346,7 +346,7 @@ public final class ShelfStages {
     }
 
     public float unitPrice(int batch) {
-        if (!isBatch(batch)) {
+        if (!hasBatch(batch)) {
             return notANumber();
         }
         return now.priceOfUnit(batch);
@@ -372,7 +372,7 @@ public final class ShelfStages {
     }
 
     public int orderTold(int order, int what) {
-        if (!isOrder(order)) {
+        if (!hasOrder(order)) {
             return UNKNOWN;
         }
         Orders orders = now.orders;
@@ -391,7 +391,7 @@ public final class ShelfStages {
     }
 
     public int taken(int order, int place, int what) {
-        if (!isOrder(order)) {
+        if (!hasOrder(order)) {
             return UNKNOWN;
         }
         if (place < 0 || !within(what, 0, 1)) {
@@ -422,7 +422,7 @@ public final class ShelfStages {
     }
 
     public int wouldExpire(int batch, int days) {
-        if (!isBatch(batch)) {
+        if (!hasBatch(batch)) {
             return UNKNOWN;
         }
         if (!within(days, 1, MAX_PASS)) {
@@ -434,7 +434,7 @@ public final class ShelfStages {
     }
 
     public int stageIn(int batch, int stage) {
-        if (!isBatch(batch) || !within(stage, 1, STAGES - 1)) {
+        if (!hasBatch(batch) || !within(stage, 1, STAGES - 1)) {
             return UNKNOWN;
         }
         if (now.batches.shelf[batch] == 0) {
@@ -468,7 +468,7 @@ public final class ShelfStages {
     }
 
     public int takes(int sort, boolean isBatch, int number) {
-        if (isBatch ? !isBatch(number) : !isGood(number)) {
+        if (isBatch ? !hasBatch(number) : !hasGood(number)) {
             return UNKNOWN;
         }
         if (!within(sort, 0, 1)) {
@@ -511,15 +511,15 @@ public final class ShelfStages {
         return value >= from && value <= to;
     }
 
-    private boolean isGood(int good) {
+    private boolean hasGood(int good) {
         return within(good, 0, now.goods.size - 1);
     }
 
-    private boolean isBatch(int batch) {
+    private boolean hasBatch(int batch) {
         return within(batch, 0, now.batches.size - 1);
     }
 
-    private boolean isOrder(int order) {
+    private boolean hasOrder(int order) {
         return within(order, 0, now.orders.size - 1);
     }
 
@@ -541,7 +541,7 @@ public final class ShelfStages {
     }
 
     private int placeError(int good, int place) {
-        if (!isGood(good)) {
+        if (!hasGood(good)) {
             return UNKNOWN;
         }
         if (place < 0) {
@@ -551,7 +551,7 @@ public final class ShelfStages {
     }
 
     private int wishError(int good, int units, int least) {
-        if (!isGood(good)) {
+        if (!hasGood(good)) {
             return UNKNOWN;
         }
         boolean fits = within(units, 1, MAX_UNITS) && within(least, 0, MAX_LIFE);
@@ -561,7 +561,7 @@ public final class ShelfStages {
     // Every entry is looked at for one error before any is looked at for the next one.
     private int deliveryError() {
         for (int entry = 0; entry < delivery.size; entry++) {
-            if (!isGood(delivery.goodIn(entry))) {
+            if (!hasGood(delivery.goodIn(entry))) {
                 return UNKNOWN;
             }
         }
