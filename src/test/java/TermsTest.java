@@ -14,6 +14,7 @@ public final class TermsTest {
         neighbouringShares();
         thirtyOrdersEver();
         asFarAsThereAreUnits();
+        orderOfAllBatches();
         ownGoodFirst();
         leastDaysLeft();
         rulesForOneBatchEach();
@@ -202,6 +203,23 @@ public final class TermsTest {
             check.due("behind it", store.taken(0, parts[at], 1), NONE);
             check.due("on the shelf", store.count(4), 12 - got);
             check.due("short", store.count(11), wanted[at] - got);
+        }
+    }
+
+    private static void orderOfAllBatches() {
+        Check check = new Check("one order from all 40 batches");
+        for (int rule = 0; rule < 3; rule++) {
+            ShelfStages store = Stores.withGood(100, 60);
+            store.set(0, rule);
+            for (int batch = 0; batch < 40; batch++) {
+                store.bring(0, 1 + batch % 2, 60 - batch);
+            }
+            check.due("batches it would take from", store.wouldGet(0, 60, 0, false, 2), 40);
+            check.due("gets", store.order(0, 999, 0, false), 60);
+            check.due("batches", store.orderTold(0, 6), 40);
+            check.due("last one", store.taken(0, 39, 0), rule == 0 ? 0 : rule == 1 ? 39 : 29);
+            check.due("behind it", store.taken(0, 40, 0), NONE);
+            check.due("on the shelf", store.count(4), 0);
         }
     }
 
