@@ -14,6 +14,7 @@ public final class MemoryTest {
         promise19Restore();
         promise19OverOtherActs();
         promise19Takes();
+        promise19NumbersAnew();
         Check.end();
     }
 
@@ -254,5 +255,58 @@ public final class MemoryTest {
         check.due("batch of order 1", store.taken(1, 0, 0), 1);
         check.due("units of order 1", store.taken(1, 0, 1), 4);
         check.due("second batch of order 1", store.taken(1, 1, 0), 2);
+    }
+
+    /** Numbers that were in use behind the snapshot are given anew, to goods, batches and orders as new. */
+    private static void promise19NumbersAnew() {
+        Check check = new Check("promise 19");
+        ShelfStages store = new ShelfStages();
+        store.keep();
+        useNumbers(store);
+        int[][] used = {{5, 2, 0, 1, 12}, {5, 2, 12, 1, 0}, {5, 2, 12, 1, 0}};
+        int[] whats = {4, 5, 7, 8, 9};
+        for (int batch = 0; batch < 3; batch++) {
+            for (int at = 0; at < whats.length; at++) {
+                check.due("used batch " + batch, store.batch(batch, whats[at]), used[batch][at]);
+            }
+        }
+        store.restore();
+        check.dueText("the empty store", Stores.toldOfState(store), Stores.toldOfState(new ShelfStages()));
+        begin(store);
+        ShelfStages other = new ShelfStages();
+        begin(other);
+        check.dueText("begun anew", Stores.toldOfState(store), Stores.toldOfState(other));
+    }
+
+    /** Units of the batches 0 to 2 go each way that they can, and the order 0 takes from two batches. */
+    private static void useNumbers(ShelfStages store) {
+        store.addGood(50, 10);
+        store.addGood(60, 10);
+        store.addSubstitute(0, 1, 0);
+        store.addSubstitute(1, 0, 0);
+        store.bring(0, 20, 4);
+        store.bring(1, 20, 3);
+        store.bring(1, 20, 2);
+        store.bring(0, 3, 1);
+        store.set(1, 3);
+        store.set(2, 2);
+        for (int batch = 0; batch < 3; batch++) {
+            store.breakUnits(batch, 1);
+        }
+        store.order(0, 8, 0, true);
+        store.order(1, 5, 3, false);
+        store.order(1, 5, 0, false);
+        store.pass(3);
+        store.recall(0);
+    }
+
+    private static void begin(ShelfStages store) {
+        store.addGood(100, 10);
+        store.addGood(90, 20);
+        store.bring(0, 9, 10);
+        store.bring(1, 9, 20);
+        store.bring(1, 5, 5);
+        store.order(1, 3, 0, false);
+        store.order(0, 99, 60, true);
     }
 }

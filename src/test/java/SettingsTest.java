@@ -299,6 +299,8 @@ public final class SettingsTest {
         check.due("due at the least", store.wouldGet(0, 10, 0, false, 3), 1000);
         check.due("undo", store.undo(), 3);
         check.due("due then", store.wouldGet(0, 10, 0, false, 3), 700);
+        check.due("nearly 30", store.setRebate(Stores.bits(29.999998f)), 1);
+        check.due("nearly 30 again", store.setRebate(Stores.bits(29.999998f)), NONE);
         check.due("0", store.setRebate(0), 1);
         check.due("due at 0", store.wouldGet(0, 10, 0, false, 3), 1000);
     }

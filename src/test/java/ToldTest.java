@@ -317,7 +317,15 @@ public final class ToldTest {
             }
         }
         check.due("event(3, 0)", store.event(3, 0), NONE);
-        check.due("event(3, 4)", store.event(3, 4), BAD_VALUE);
+        Stores.withText(store, "0x6");
+        store.readDelivery();
+        check.due("day of a delivery", store.event(0, 3), 2);
+        store.pass(1);
+        store.bring(0, 7, 7);
+        check.due("day of a batch", store.event(0, 3), 3);
+        store.recall(0);
+        check.due("day of a recall", store.event(0, 3), 3);
+        check.due("event(11, 4)", store.event(11, 4), BAD_VALUE);
         for (int wild : Stores.WILD) {
             check.due("back " + wild, store.event(wild, 0), wild < 0 ? BAD_VALUE : NONE);
             check.due("what " + wild, store.event(0, wild), BAD_VALUE);
