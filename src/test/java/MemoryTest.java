@@ -255,6 +255,19 @@ public final class MemoryTest {
         check.due("batch of order 1", store.taken(1, 0, 0), 1);
         check.due("units of order 1", store.taken(1, 0, 1), 4);
         check.due("second batch of order 1", store.taken(1, 1, 0), 2);
+        ShelfStages other = Stores.withBatches(3, 10, 5, 10, 7, 10);
+        other.order(0, 15, 0, false);
+        other.keep();
+        other.undo();
+        other.breakUnits(0, 3);
+        other.order(0, 15, 0, false);
+        check.due("second batch without the first", other.taken(0, 1, 0), 2);
+        other.restore();
+        int[] units = {3, 5, 7};
+        for (int place = 0; place < 3; place++) {
+            check.due("batch of the snapshot", other.taken(0, place, 0), place);
+            check.due("units of the snapshot", other.taken(0, place, 1), units[place]);
+        }
     }
 
     /** Numbers that were in use behind the snapshot are given anew, to goods, batches and orders as new. */

@@ -299,8 +299,10 @@ public final class SettingsTest {
         check.due("due at the least", store.wouldGet(0, 10, 0, false, 3), 1000);
         check.due("undo", store.undo(), 3);
         check.due("due then", store.wouldGet(0, 10, 0, false, 3), 700);
-        check.due("nearly 30", store.setRebate(Stores.bits(29.999998f)), 1);
-        check.due("nearly 30 again", store.setRebate(Stores.bits(29.999998f)), NONE);
+        for (float rebate : new float[] {7.25f, 7.5f, Math.nextUp(7.5f), 7.5f}) {
+            check.due("rebate " + rebate, store.setRebate(Stores.bits(rebate)), 1);
+            check.due("again", store.setRebate(Stores.bits(rebate)), NONE);
+        }
         check.due("0", store.setRebate(0), 1);
         check.due("due at 0", store.wouldGet(0, 10, 0, false, 3), 1000);
     }
